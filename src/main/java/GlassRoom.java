@@ -92,7 +92,7 @@ public final class GlassRoom {
         if (chart.isFull()) {
             return FULL;
         }
-        return chart.isTaken(x, y) ? NO : chart.add(new Station(x, y, height, g));
+        return chart.isTaken(x, y) ? NO : chart.add(x, y, height, g);
     }
 
     public int tell(int station, int hour, int r, int w) {
@@ -175,11 +175,11 @@ public final class GlassRoom {
         if (!isWithin(d, -1000000, 1000000) || !isWithin(weight, 1, 9)) {
             return OUTSIDE;
         }
-        return survey.isFull() ? FULL : survey.add(a, b, d, weight);
+        return survey.add(a, b, d, weight);
     }
 
     public int drop() {
-        return survey.count() == 0 ? UNKNOWN : survey.removeLatest();
+        return survey.removeLatest();
     }
 
     public long height(int bench, int part) {
@@ -254,20 +254,6 @@ public final class GlassRoom {
     }
 
     public int lines(int hour, int v, int what) {
-        int refusal = draw(hour, v, what);
-        return refusal != 0 ? refusal : contours.sumOfAll(what);
-    }
-
-    public int line(int hour, int v, int i, int what) {
-        int refusal = draw(hour, v, what);
-        if (refusal != 0) {
-            return refusal;
-        }
-        return contours.hasLine(i) ? contours.ofLine(i, what) : UNKNOWN;
-    }
-
-    /** Draws the lines at a height; 0, or why it is refused. */
-    private int draw(int hour, int v, int what) {
         if (!isHour(hour) || !Column.holds(v) || !isWithin(what, 0, 3)) {
             return OUTSIDE;
         }
@@ -275,7 +261,19 @@ public final class GlassRoom {
             return STATE;
         }
         contours.drawAt(chart, v);
-        return 0;
+        return contours.sumOfAll(what);
+    }
+
+    public int line(int hour, int v, int i, int what) {
+        if (!isHour(hour) || !Column.holds(v) || !isWithin(what, 0, 3)) {
+            return OUTSIDE;
+        }
+        // Without a reading there are no lines either: asked first, or STATE would never be told.
+        if (!chart.readHour(hour)) {
+            return STATE;
+        }
+        contours.drawAt(chart, v);
+        return contours.hasLine(i) ? contours.ofLine(i, what) : UNKNOWN;
     }
 
     // ---- 5 drift
@@ -287,7 +285,8 @@ public final class GlassRoom {
         if (!isWithin(part, 0, 2)) {
             return LOST + OUTSIDE;
         }
-        if (!drifts.search(chart, station)) {
+        drifts.compare(chart, station);
+        if (!drifts.search()) {
             return LOST + NONE;
         }
         return part == 0 ? drifts.hour() : fractionPart(drifts.top(), drifts.bottom(), part - 1);
@@ -301,7 +300,8 @@ public final class GlassRoom {
         if (s.mendings() >= Station.MOST_MENDINGS) {
             return LOST + FULL;
         }
-        if (!drifts.search(chart, station)) {
+        drifts.compare(chart, station);
+        if (!drifts.search()) {
             return LOST + NONE;
         }
         long size = cut(drifts.top(), drifts.bottom());
@@ -668,10 +668,6 @@ public final class GlassRoom {
             return isWithin(i, 0, count - 1);
         }
 
-        boolean isFull() {
-            return count >= MOST_DIFFERENCES;
-        }
-
         void startAnew(int n) {
             benchCount = n;
             count = 0;
@@ -679,6 +675,9 @@ public final class GlassRoom {
         }
 
         int add(int a, int b, int up, int weight) {
+            if (count >= MOST_DIFFERENCES) {
+                return FULL;
+            }
             froms[count] = a;
             tos[count] = b;
             ups[count] = up;
@@ -688,6 +687,9 @@ public final class GlassRoom {
         }
 
         int removeLatest() {
+            if (count == 0) {
+                return UNKNOWN;
+            }
             solved = false;
             return --count;
         }
@@ -802,6 +804,8 @@ public final class GlassRoom {
 
     /** The map: its stations and, for the hour that was read last, their levels, the field and its lows. */
     private static final class Chart {
+        /** Far below any difference of two levels. */
+        static final int NOT_COMPARED = -1000000;
         private static final int MOST_STATIONS = 8;
 
         private final Station[] stations = new Station[MOST_STATIONS];
@@ -826,22 +830,27 @@ public final class GlassRoom {
 
         boolean isTaken(int x, int y) {
             for (int k = 0; k < count; k++) {
-                if (stations[k].isAt(x, y)) {
+                Station s = find(k);
+                if (s != null && s.isAt(x, y)) {
                     return true;
                 }
             }
             return false;
         }
 
-        int add(Station station) {
-            stations[count] = station;
+        int add(int x, int y, int height, Glass glass) {
+            if (isFull()) {
+                return FULL;
+            }
+            stations[count] = new Station(x, y, height, glass);
             return count++;
         }
 
         int countReadings() {
             int sum = 0;
             for (int k = 0; k < count; k++) {
-                sum += stations[k].countReadings();
+                Station s = find(k);
+                sum += s == null ? 0 : s.countReadings();
             }
             return sum;
         }
@@ -849,7 +858,8 @@ public final class GlassRoom {
         int countMendings() {
             int sum = 0;
             for (int k = 0; k < count; k++) {
-                sum += stations[k].mendings();
+                Station s = find(k);
+                sum += s == null ? 0 : s.mendings();
             }
             return sum;
         }
@@ -858,9 +868,9 @@ public final class GlassRoom {
         boolean readLevels(int hour) {
             boolean any = false;
             for (int k = 0; k < count; k++) {
-                Station s = stations[k];
-                levels[k] = s.hasReading(hour) ? s.levelAt(hour) : 0;
-                any |= levels[k] != 0;
+                Station s = find(k);
+                levels[k] = s != null && s.hasReading(hour) ? s.levelAt(hour) : 0;
+                any = any || levels[k] != 0;
             }
             return any;
         }
@@ -887,8 +897,9 @@ public final class GlassRoom {
             long sum = 0;
             long weights = 0;
             for (int k = 0; k < count; k++) {
-                if (levels[k] != 0 && k != except) {
-                    int weight = 1000 / (1 + squareBetween(x, y, stations[k].x, stations[k].y));
+                Station s = find(k);
+                if (s != null && levels[k] != 0 && k != except) {
+                    int weight = 1000 / (1 + squareBetween(x, y, s.x, s.y));
                     sum += (long) levels[k] * weight;
                     weights += weight;
                 }
@@ -896,22 +907,17 @@ public final class GlassRoom {
             return (int) cut(sum, weights);
         }
 
-        /** By how much a station is above what all others tell of its point, in the hour that was read last. */
+        /**
+         * By how much a station is above what all others tell of its point, in the hour that was read last;
+         * NOT_COMPARED, if it or every other one has a gap then.
+         */
         int excess(int station) {
-            return levels[station] - fieldAt(stations[station].x, stations[station].y, station);
-        }
-
-        /** Whether in the hour that was read last a station has a reading, and another one too. */
-        boolean isCompared(int station) {
-            if (levels[station] == 0) {
-                return false;
+            Station s = find(station);
+            if (s == null || levels[station] == 0) {
+                return NOT_COMPARED;
             }
-            for (int k = 0; k < count; k++) {
-                if (k != station && levels[k] != 0) {
-                    return true;
-                }
-            }
-            return false;
+            int others = fieldAt(s.x, s.y, station);
+            return others == 0 ? NOT_COMPARED : levels[station] - others;
         }
 
         int fieldOf(int point) {
@@ -1139,9 +1145,26 @@ public final class GlassRoom {
             return bottom;
         }
 
-        /** Whether there is such an hour; then hour, top and bottom tell of it. */
-        boolean search(Chart chart, int station) {
-            long after = compare(chart, station);
+        /** Takes a station's excesses in all hours that have one. */
+        void compare(Chart chart, int station) {
+            count = 0;
+            for (int h = 0; h < HOURS; h++) {
+                chart.readLevels(h);
+                int excess = chart.excess(station);
+                if (excess != Chart.NOT_COMPARED) {
+                    hours[count] = h;
+                    excesses[count] = excess;
+                    count++;
+                }
+            }
+        }
+
+        /** Whether there is such an hour among those compared; then hour, top and bottom tell of it. */
+        boolean search() {
+            long after = 0;
+            for (int k = 0; k < count; k++) {
+                after += excesses[k];
+            }
             long before = 0;
             boolean found = false;
             for (int k = 0; k < count; k++) {
@@ -1153,22 +1176,6 @@ public final class GlassRoom {
                 after -= excesses[k];
             }
             return found;
-        }
-
-        /** Takes the excesses of all hours that have one; their sum. */
-        private long compare(Chart chart, int station) {
-            long sum = 0;
-            count = 0;
-            for (int h = 0; h < HOURS; h++) {
-                chart.readLevels(h);
-                if (chart.isCompared(station)) {
-                    hours[count] = h;
-                    excesses[count] = chart.excess(station);
-                    sum += excesses[count];
-                    count++;
-                }
-            }
-            return sum;
         }
 
         /** Keeps a change, if it is the first or greater than the one kept: the first of equals stays. */

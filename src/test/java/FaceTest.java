@@ -61,7 +61,8 @@ public final class FaceTest {
                 String types = Arrays.toString(Arrays.stream(m.getParameterTypes()).map(Class::getName).toArray());
                 got.add(m.getReturnType() + " " + m.getName() + "(" + types.substring(1, types.length() - 1) + ")");
                 names.add(m.getName());
-                check(Modifier.isPublic(m.getModifiers()) && !Modifier.isStatic(m.getModifiers()), m + " is not public");
+                boolean open = Modifier.isPublic(m.getModifiers()) && !Modifier.isStatic(m.getModifiers());
+                check(open, m + " is not public");
             }
         }
         check(want.equals(got), "the face is " + got + ", due is " + want);

@@ -194,7 +194,8 @@ public final class ModelTest {
                 int[][] ends = {{-50, 50}, {10, 1000}, {6000, 8000}, {1, 10}, {0, 30}, {8000, 12000}};
                 int[] e = ends[Math.max(0, Math.min(5, what))];
                 int v = p.near(e[0], e[1]);
-                return both(p, "set(" + g + ", " + what + ", " + v + ")", p.room.set(g, what, v), p.model.set(g, what, v));
+                return both(p, "set(" + g + ", " + what + ", " + v + ")",
+                    p.room.set(g, what, v), p.model.set(g, what, v));
             }
             case 1: {
                 int what = p.near(0, 5);
@@ -229,7 +230,8 @@ public final class ModelTest {
             case 1: return tell(p);
             case 2: return both(p, "gap(" + s + ", " + h + ")", p.room.gap(s, h), p.model.gap(s, h));
             case 3: {
-                int a = p.near(1, 20000), b = p.in(0, 1) == 0 ? p.near(1, 20000) : a - p.in(-1, 400), t = p.near(-30, 50);
+                int a = p.near(1, 20000), t = p.near(-30, 50);
+                int b = p.in(0, 1) == 0 ? p.near(1, 20000) : a - p.in(-1, 400);
                 return both(p, "rise(" + a + ", " + b + ", " + t + ")", p.room.rise(a, b, t), p.model.rise(a, b, t));
             }
             case 4: {
@@ -289,7 +291,8 @@ public final class ModelTest {
             }
             case 2: {
                 int i = p.in(-1, 3), n = p.in(0, 4) == 0 ? p.near(0, 47) : p.in(0, 3);
-                return both(p, "follow(" + h + ", " + i + ", " + n + ")", p.room.follow(h, i, n), p.model.follow(h, i, n));
+                return both(p, "follow(" + h + ", " + i + ", " + n + ")",
+                    p.room.follow(h, i, n), p.model.follow(h, i, n));
             }
             case 3: case 4: {
                 int v = p.lineAt(h), what = p.near(0, 3);
@@ -770,7 +773,8 @@ public final class ModelTest {
                 int next = -6;
                 if (hour + k > 47) return -6;
                 for (int q : lows(hour + k)) {
-                    if (next >= 0 && square(at, q) == square(at, next) && square(at, q) <= 8) seen("followed by two alike");
+                    boolean alike = next >= 0 && square(at, q) == square(at, next);
+                    if (alike && square(at, q) <= 8) seen("followed by two alike");
                     if (next < 0 || square(at, q) < square(at, next)) next = q;
                 }
                 if (next < 0 || square(at, next) > 8) {

@@ -24,6 +24,7 @@ public final class PromisesTest {
         tellingReadings();
         readingsAndLevels();
         levelsAtTheEnds();
+        levelsJustReached();
         rises();
         risesOneByOne();
         betweenStations();
@@ -305,6 +306,18 @@ public final class PromisesTest {
         due(10, "one more is not", x.rise((int) p, (int) level + 1, 0) < 40000 ? 1 : 0, 1);
         x.tell(4, 0, 1, 0);
         due(10, "level at height 0 is held to 1", x.reading(4, 0, 4), 1);
+    }
+
+    /** Heights at which the sum of shares comes to just what is needed, or misses it by one. */
+    private static void levelsJustReached() {
+        int[][] cases = {{6603, 578, 7100}, {6604, 798, 7300}, {6690, -353, 6399}, {6721, -25, 6699}};
+        GlassRoom x = map();
+        for (int k = 0; k < cases.length; k++) {
+            x.station(k, 0, cases[k][1], 0);
+            x.tell(k, 0, cases[k][0], 0);
+            due(10, "mended", x.reading(k, 0, 3), cases[k][0]);
+            due(10, "level from height " + cases[k][1], x.reading(k, 0, 4), cases[k][2]);
+        }
     }
 
     private static void rises() {

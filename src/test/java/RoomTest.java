@@ -49,7 +49,7 @@ public final class RoomTest {
         }
         room.benches(6);
         for (int k = 0; k < 12; k++) {
-            room.difference(k % 6, (k * k + k + 1) % 6 == k % 6 ? (k + 1) % 6 : (k * k + k + 1) % 6, 100 * k, 1 + k % 9);
+            room.difference(k % 6, (k + 1 + k / 6) % 6, 100 * k, 1 + k % 9);
         }
         return room;
     }
