@@ -33,6 +33,7 @@ public final class GlassEdgesTest {
         rightByCupCut();
         rightByBores();
         rightByWarmthCut();
+        rightByWarmthJustShort();
         rightOfTheGreatest();
         rightOfTheLeast();
         rightAtTheTube();
@@ -382,6 +383,17 @@ public final class GlassEdgesTest {
         for (int w = -30; w <= 50; w++) {
             due(6, "scale 18 at " + w, x.right(0, 7600, w), 7605);
             due(6, "scale 18 at " + w + ", below 0", x.right(0, 1, w), -69);
+        }
+    }
+
+    /** Quotients that miss a whole number by little: 100000 and 18 are just these. */
+    private static void rightByWarmthJustShort() {
+        int[][] cases = {{0, -30, 7545, 7585}, {2, -30, 7659, 7695}, {2, 10, 7514, 7501}, {30, 10, 7500, 7508},
+            {0, 50, 7512, 7444}, {2, 50, 7568, 7507}, {30, 50, 7562, 7606}};
+        GlassRoom x = Due.truthful();
+        for (int[] c : cases) {
+            x.set(0, 4, c[0]);
+            due(6, "scale " + c[0] + ", right(0, " + c[2] + ", " + c[1] + ")", x.right(0, c[2], c[1]), c[3]);
         }
     }
 

@@ -25,12 +25,13 @@ public final class MapEdgesTest {
         lowAtEveryPoint();
         lowBesideOneAsMuch();
         lowsApartAsMuch();
+        lowsTwoApart();
         lowOnALevelMap();
         lowsByNumbers();
         followOutside();
         followNoSuchLow();
         followNoHour();
-        followFromOnePointToAll();
+        followFromSomePointsToAll();
         followTheNearest();
         followTheFirstOfSeveral();
         followLostStaysLost();
@@ -191,6 +192,9 @@ public final class MapEdgesTest {
         due(20, "halfway, 7600.5", x.field(0, 1, 0), 7600);
         Due.tellAll(x, 0, 7602, 7600);
         due(20, "halfway, 7601", x.field(0, 1, 0), 7601);
+        x = Due.map(0, 0, 1, 1);
+        Due.tellAll(x, 0, 7600, 7604);
+        due(20, "1332 by 1333 short of 7601", x.field(0, 0, 0), 7600);
     }
 
     private static void fieldOfEightStations() {
@@ -308,6 +312,24 @@ public final class MapEdgesTest {
         due(21, "no third", x.low(0, 2), Due.NONE);
     }
 
+    /** "beside which": a point two off is not beside it, though it has less. */
+    private static void lowsTwoApart() {
+        int[][] steps = {{1, 0}, {0, 1}, {1, 1}};
+        for (int[] step : steps) {
+            for (int k = 0; k < 2; k++) {
+                Told told = new Told(2, 2, k == 0 ? 6700 : 6800, 2 + step[0], 2 + step[1], 8500,
+                    2 + 2 * step[0], 2 + 2 * step[1], k == 0 ? 6800 : 6700, 0, 0, 8500, 7, 0, 8500, 0, 7, 8500,
+                    7, 7, 8500);
+                GlassRoom x = told.room();
+                int other = 18 + 2 * step[0] + 16 * step[1];
+                Due.holds(20, "one has less", told.field(18) < told.field(other) == (k == 0));
+                due(21, "how many", x.low(0, -1), 2);
+                due(21, "the first", x.low(0, 0), 18);
+                due(21, "the second", x.low(0, 1), other);
+            }
+        }
+    }
+
     /** All points alike: only point 0 has none with a lesser number beside it. */
     private static void lowOnALevelMap() {
         for (int point : new int[] {0, 7, 27, 56, 63}) {
@@ -368,28 +390,36 @@ public final class MapEdgesTest {
         due(22, "follow(0, 2, 0)", x.follow(0, 2, 0), Due.NONE);
     }
 
-    /** "if that square is 8 at most": from one point to every other one. */
-    private static void followFromOnePointToAll() {
-        int start = 27;
+    /** "if that square is 8 at most": from three points to every other one. */
+    private static void followFromSomePointsToAll() {
         for (int point = 0; point < 64; point++) {
-            int far = farCorner(point);
             Told next = onePoint(point, LOW, HIGH);
-            if (next.lows().size() != 1 || next.lows().get(0) != point) {
-                continue;
+            if (next.lows().size() == 1 && next.lows().get(0) == point) {
+                followOneStep(27, point);
+                followOneStep(42, point);
+                followOneStep(21, point);
             }
-            GlassRoom x = Due.truthful();
-            int first = x.station(start % 8, start / 8, 0, 0);
-            int corner = x.station(far % 8, far / 8, 0, 0);
-            x.tell(first, 0, LOW, 0);
-            x.tell(corner, 0, HIGH, 0);
-            int second = point == start ? first : x.station(point % 8, point / 8, 0, 0);
-            x.tell(second, 1, LOW, 0);
-            x.tell(corner, 1, HIGH, 0);
-            due(22, "it starts at 27", x.follow(0, 0, 0), start);
-            due(22, "from 27 to " + point, x.follow(0, 0, 1), square(start, point) <= 8 ? point : Due.NONE);
         }
-        due(22, "one of 8 is among them", onePoint(45, LOW, HIGH).lows().size(), 1);
-        due(22, "one of 9 is among them", onePoint(30, LOW, HIGH).lows().size(), 1);
+        for (int point : new int[] {45, 30, 24, 60, 39}) {
+            due(22, point + " is among them", onePoint(point, LOW, HIGH).lows().size(), 1);
+        }
+    }
+
+    private static void followOneStep(int start, int point) {
+        int far = farCorner(point);
+        GlassRoom x = Due.truthful();
+        int first = x.station(start % 8, start / 8, 0, 0);
+        int corner = x.station(far % 8, far / 8, 0, 0);
+        int second = point == start ? first : x.station(point % 8, point / 8, 0, 0);
+        x.tell(first, 0, LOW, 0);
+        x.tell(corner, 0, HIGH, 0);
+        x.tell(second, 1, LOW, 0);
+        x.tell(corner, 1, HIGH, 0);
+        if (x.low(0, -1) == 1) {
+            due(22, "it starts at " + start, x.follow(0, 0, 0), start);
+            due(22, "from " + start + " to " + point, x.follow(0, 0, 1),
+                square(start, point) <= 8 ? point : Due.NONE);
+        }
     }
 
     /** "that of the next HOUR that is nearest": not the first by number. */
@@ -623,15 +653,24 @@ public final class MapEdgesTest {
         due(24, "one more: the second begins upward", x.line(0, 7501, 1, 2), 1);
     }
 
-    /** In the middle two open lines part: to the sides with less than 4 v, up and down otherwise. */
+    /** In the middle two open lines meet: which sides go on to which is told by the sum of the four points. */
     private static void saddleInTheMiddle() {
         Told told = new Told(3, 3, 8000, 4, 4, 8000, 4, 3, 7001, 3, 4, 7001);
         due(23, "together", told.field(27) + told.field(36) + told.field(28) + told.field(35), 30000);
         GlassRoom x = told.room();
+        lines(x, 7500, 2, 0, 16, 32);
         line(x, 7500, 0, 8, 0, 6, 63);
         line(x, 7500, 1, 8, 0, 49, 118);
-        due(23, "all sides", x.lines(0, 7500, 2), 16);
-        due(24, "one more: the first goes round the high point", x.line(0, 7501, 0, 3), 55);
+        lines(x, 7501, 2, 0, 16, 32);
+        line(x, 7501, 0, 8, 0, 6, 55);
+        line(x, 7501, 1, 8, 0, 57, 118);
+        x = new Told(4, 3, 8000, 3, 4, 8000, 3, 3, 7001, 4, 4, 7001).room();
+        lines(x, 7500, 2, 0, 16, 32);
+        line(x, 7500, 0, 8, 0, 6, 55);
+        line(x, 7500, 1, 8, 0, 57, 118);
+        lines(x, 7501, 2, 0, 16, 32);
+        line(x, 7501, 0, 8, 0, 6, 63);
+        line(x, 7501, 1, 8, 0, 49, 118);
     }
 
     // ---- 24: line

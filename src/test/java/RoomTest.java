@@ -2,7 +2,9 @@ import java.lang.management.ManagementFactory;
 
 /** All calls of a run live in one room: none but station may make an object. */
 public final class RoomTest {
-    private static final int CALLS = 512;
+    private static final int ROOMS = 10;
+    /** Filling takes some 400 calls, and an object has 512; a turn is up to three calls. */
+    private static final int TURNS = 30;
     /** The machine itself now and then books a little for a thread. */
     private static final long SPARE = 4096;
     private static final com.sun.management.ThreadMXBean THREADS =
@@ -12,14 +14,15 @@ public final class RoomTest {
     public static void main(String[] args) {
         int wrong = 0;
         for (int which = 0; which < 26; which++) {
-            GlassRoom room = filled();
-            callOften(room, which);
+            GlassRoom[] first = allFilled();
+            GlassRoom[] second = allFilled();
+            callOften(first, which);
             long before = THREADS.getCurrentThreadAllocatedBytes();
-            callOften(room, which);
+            callOften(second, which);
             long made = THREADS.getCurrentThreadAllocatedBytes() - before;
             if (made > SPARE) {
                 wrong++;
-                System.out.println("call " + which + " made " + made + " bytes in " + CALLS + " calls");
+                System.out.println("call " + which + " made " + made + " bytes in " + ROOMS * TURNS + " turns");
             }
         }
         long before = THREADS.getCurrentThreadAllocatedBytes();
@@ -39,6 +42,14 @@ public final class RoomTest {
         }
     }
 
+    private static GlassRoom[] allFilled() {
+        GlassRoom[] rooms = new GlassRoom[ROOMS];
+        for (int k = 0; k < ROOMS; k++) {
+            rooms[k] = filled();
+        }
+        return rooms;
+    }
+
     private static GlassRoom filled() {
         GlassRoom room = new GlassRoom();
         for (int s = 0; s < 8; s++) {
@@ -54,8 +65,9 @@ public final class RoomTest {
         return room;
     }
 
-    private static void callOften(GlassRoom room, int which) {
-        for (int k = 0; k < CALLS; k++) {
+    private static void callOften(GlassRoom[] rooms, int which) {
+        for (int k = 0; k < ROOMS * TURNS; k++) {
+            GlassRoom room = rooms[k / TURNS];
             kept += which < 13 ? callOne(room, which, k) : callOther(room, which, k);
         }
     }
